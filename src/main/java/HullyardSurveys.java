@@ -143,7 +143,8 @@ public final class HullyardSurveys {
       throws IllegalArgumentException, IndexOutOfBoundsException {
     requireHeap(heap);
     orderHeap(heap);
-    for (int i = 0; i < layer && ordered.size() > 0; i++) {
+    int above = Math.min(layer, POINTS);
+    for (int i = 0; i < above && ordered.size() > 0; i++) {
       Hulls.peel(ordered, firstHull);
     }
     if (layer < 0 || ordered.size() == 0) {
