@@ -14,8 +14,9 @@ public final class HullyardSurveys {
   private static final int FARTHEST = 200;
   private static final int DROPPED = -1;
   private static final int ABOVE_ANY_FENCE = 1000;
-  // The sum of two hulls has at most as many corners as both together.
-  private static final int FIGURE_ROOM = 2 * POINTS + 1;
+  // No figure has more corners than points have come: the sum of a hull with itself has no more
+  // than the hull. One more closes the way round while a figure is made.
+  private static final int FIGURE_ROOM = POINTS + 1;
 
   private final Yard yard = new Yard();
   private final Yard imaged = new Yard();
@@ -378,7 +379,7 @@ public final class HullyardSurveys {
     }
     requireFilled(heap);
     orderHeap(heap);
-    return Shapes.side(ordered, what);
+    return Shapes.bound(ordered, what);
   }
 
   public int fence(int heap, int points) throws IllegalArgumentException, NoSuchElementException {
@@ -444,8 +445,8 @@ public final class HullyardSurveys {
   }
 
   public float fills() {
-    int wide = Shapes.side(figure, 1) - Shapes.side(figure, 0);
-    int high = Shapes.side(figure, 3) - Shapes.side(figure, 2);
+    int wide = Shapes.bound(figure, 1) - Shapes.bound(figure, 0);
+    int high = Shapes.bound(figure, 3) - Shapes.bound(figure, 2);
     int doubledBox = 2 * wide * high;
     if (doubledBox <= 0) {
       return 0.0f;
@@ -695,7 +696,7 @@ public final class HullyardSurveys {
     }
   }
 
-  /** What an image keeps: points marked with their heaps, polygons, and the two ends of each line. */
+  /** What an image keeps: points marked with their heaps, polygons, the two ends of each line. */
   private static final class Yard {
     private final Row points = new Row(POINTS);
     private final Row ends = new Row(2 * LINES);
@@ -1031,16 +1032,16 @@ public final class HullyardSurveys {
     }
 
     /** The least or greatest x or y, numbered as the box tells them; 0 of nothing. */
-    static int side(Row row, int what) {
-      int side = 0;
+    static int bound(Row row, int what) {
+      int bound = 0;
       for (int i = 0; i < row.size(); i++) {
         int number = what < 2 ? row.xAt(i) : row.yAt(i);
-        boolean isFarther = what % 2 == 0 ? number < side : number > side;
+        boolean isFarther = what % 2 == 0 ? number < bound : number > bound;
         if (i == 0 || isFarther) {
-          side = number;
+          bound = number;
         }
       }
-      return side;
+      return bound;
     }
 
     /** A number of the squared width of a convex polygon, a fraction in lowest terms. */
@@ -1073,7 +1074,10 @@ public final class HullyardSurveys {
       return reach;
     }
 
-    /** Whether a row of corners is a simple polygon. */
+    /**
+     * Whether a row of corners is a simple polygon. Two corners at one place need no look of their
+     * own: an edge there folds back, or two edges that are no neighbours meet.
+     */
     static boolean closesSimply(Row shape) {
       if (shape.size() < 3) {
         return false;
@@ -1083,9 +1087,6 @@ public final class HullyardSurveys {
           return false;
         }
         for (int j = i + 1; j < shape.size(); j++) {
-          if (shape.isAt(i, shape.xAt(j), shape.yAt(j))) {
-            return false;
-          }
           boolean areNeighbours = shape.next(i) == j || shape.next(j) == i;
           if (!areNeighbours && Plane.meet(shape, i, shape.next(i), shape, j, shape.next(j))) {
             return false;
@@ -1110,25 +1111,16 @@ public final class HullyardSurveys {
           return false;
         }
       }
-      // The corners on the stretch cut it into parts of which each is as its middle is.
+      // The corners on the stretch cut it into parts of which each is as its middle is. The middles
+      // of several parts together are looked at, too, which is no harm.
       for (int i = 0; i < shape.size(); i++) {
+        if (!Plane.isBetween(shape, corner, other, shape, i)) {
+          continue;
+        }
         for (int j = i + 1; j < shape.size(); j++) {
-          if (Plane.isBetween(shape, corner, other, shape, i)
-              && Plane.isBetween(shape, corner, other, shape, j)
-              && isPart(shape, i, j)
-              && whereIsMiddle(shape, i, j) < 0) {
+          if (Plane.isBetween(shape, corner, other, shape, j) && whereIsMiddle(shape, i, j) < 0) {
             return false;
           }
-        }
-      }
-      return true;
-    }
-
-    /** Whether no other corner is on the stretch between two. */
-    private static boolean isPart(Row shape, int corner, int other) {
-      for (int i = 0; i < shape.size(); i++) {
-        if (i != corner && i != other && Plane.isBetween(shape, corner, other, shape, i)) {
-          return false;
         }
       }
       return true;
@@ -1224,9 +1216,9 @@ public final class HullyardSurveys {
     private final Row below = new Row(CORNERS);
 
     int countInside(Row shape) {
-      int top = Shapes.side(shape, 3);
+      int top = Shapes.bound(shape, 3);
       int inside = 0;
-      for (int y = Shapes.side(shape, 2); y <= top; y++) {
+      for (int y = Shapes.bound(shape, 2); y <= top; y++) {
         cut(shape, y, true, above);
         cut(shape, y, false, below);
         inside += countCommon();

@@ -21,6 +21,7 @@ public final class FigureTest {
     test.twoHeapsRefuse();
     test.layers();
     test.layersOfLines();
+    test.sixtyCorners();
     test.hullOf();
     test.corner();
     test.areaEdgeInner();
@@ -177,6 +178,34 @@ public final class FigureTest {
     }
     due.same("layers of 60 points", deep.layers(0), 15);
     figure(deep, "the last one of them", deep.layer(0, 14), 4, "-1,-1 1,-1 1,1 -1,1");
+  }
+
+  /** All 60 points are corners of their hull: the figure has as many as it can have. */
+  private void sixtyCorners() {
+    HullyardSurveys yard = new HullyardSurveys();
+    int[] sides = Make.roundTrip();
+    int x = -30;
+    int y = -60;
+    for (int i = 0; i < 60; i++) {
+      yard.point(1, x, y);
+      x += sides[2 * i];
+      y += sides[2 * i + 1];
+    }
+    due.same("the round trip ends where it began", x == -30 && y == -60, true);
+    due.same("hull of 60 corners", yard.hull(1), 60);
+    int area = yard.area();
+    int edge = yard.edge();
+    String corners = Make.figure(yard);
+    due.same("join of 60 corners", yard.join(1, 1), 60);
+    due.sameText("its figure", Make.figure(yard), corners);
+    due.same("layers of 60 corners", yard.layers(1), 1);
+    due.same("layer of 60 corners", yard.layer(1, 0), 60);
+    due.same("apart of 60 corners", yard.apart(1, 1), false);
+    due.same("errors of 60 corners", yard.errors(), 0);
+    due.same("sum of 60 corners", yard.sum(1, 1), 60);
+    due.same("area of their sum", yard.area(), 4 * area);
+    due.same("edge of their sum", yard.edge(), 2 * edge);
+    due.same("the farthest pair of 60 corners is there", yard.distance(1, true) > 0, true);
   }
 
   // Promise 14

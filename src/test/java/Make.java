@@ -1,3 +1,8 @@
+import java.math.BigInteger;
+import java.util.ArrayList;
+import java.util.Comparator;
+import java.util.List;
+
 /** Makes yards for the tests. */
 final class Make {
   private Make() {
@@ -46,5 +51,31 @@ final class Make {
       told.append(yard.corner(i, false)).append(',').append(yard.corner(i, true));
     }
     return told.toString();
+  }
+
+  /** The 60 shortest sides of unlike directions, in their order round a hull: x, y, x, y. */
+  static int[] roundTrip() {
+    List<int[]> sides = new ArrayList<>();
+    for (int x = -7; x <= 7; x++) {
+      for (int y = -7; y <= 7; y++) {
+        int divisor = BigInteger.valueOf(x).gcd(BigInteger.valueOf(y)).intValue();
+        if (divisor == 1) {
+          sides.add(new int[] {x, y});
+        }
+      }
+    }
+    // Sides come in pairs, one to and one fro, so the 60 shortest ones lead back.
+    sides.sort(
+        Comparator.<int[]>comparingInt(s -> s[0] * s[0] + s[1] * s[1])
+            .thenComparingInt(s -> Math.abs(s[0]))
+            .thenComparingInt(s -> Math.abs(s[0] + s[1])));
+    List<int[]> round = new ArrayList<>(sides.subList(0, 60));
+    round.sort(Comparator.comparingDouble(s -> -Math.atan2(-s[1], s[0])));
+    int[] numbers = new int[120];
+    for (int i = 0; i < 60; i++) {
+      numbers[2 * i] = round.get(i)[0];
+      numbers[2 * i + 1] = round.get(i)[1];
+    }
+    return numbers;
   }
 }

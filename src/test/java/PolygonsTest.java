@@ -124,6 +124,8 @@ public final class PolygonsTest {
     simple("an edge that folds back at the last corner", false, 2, 0, 2, 4, 0, 0, 4, 0);
     simple("an edge that folds back farther", false, 2, 0, 4, 0, 0, 0, 2, 4);
     simple("four corners on a line", false, 0, 0, 1, 1, 3, 3, 2, 2);
+    simple("a corner that comes again across", false, 2, 2, 0, 0, 2, 2, 4, 0);
+    simple("a corner that comes again between two triangles", false, 2, 2, 0, 0, 4, 0, 2, 2, 4, 4, 0, 4);
     simple("a first corner that comes again", false, 0, 0, 4, 0, 4, 4, 0, 0);
     simple("edges that all but touch", true, 0, 0, 200, 199, 200, 200, 1, 1);
     simple("a far crossing", false, -200, -200, 200, 200, 199, 200, 200, 199);
