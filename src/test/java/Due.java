@@ -2,6 +2,16 @@
 final class Due {
   private int asked = 0;
   private int wrong = 0;
+  private String sentence = "";
+
+  /** Sets the sentence of the document that the next answers are about. */
+  void about(String told) {
+    sentence = told;
+  }
+
+  int asked() {
+    return asked;
+  }
 
   void same(String call, long got, long want) {
     asked++;
@@ -43,34 +53,6 @@ final class Due {
     tell(call + " threw nothing, due is " + due.getName());
   }
 
-  /** The same, and what can be asked of the object is the same before and after. */
-  void refuses(
-      HullyardSurveys yard, String call, Class<? extends RuntimeException> due, Runnable body) {
-    String before = look(yard);
-    raises(call, due, body);
-    sameText("what can be asked after " + call, look(yard), before);
-  }
-
-  /** What can be asked without a change; some 50 calls. */
-  static String look(HullyardSurveys yard) {
-    StringBuilder seen = new StringBuilder();
-    seen.append("figure ").append(yard.corners()).append(' ').append(yard.checksum());
-    for (int heap = 0; heap < 3; heap++) {
-      seen.append(" heap ").append(yard.count(heap)).append(' ').append(yard.meanFar(heap));
-      if (yard.count(heap) > 0) {
-        for (int what = 0; what < 4; what++) {
-          seen.append(' ').append(yard.box(heap, what));
-        }
-      }
-    }
-    for (int polygon = 0; polygon < 4; polygon++) {
-      seen.append(" polygon ").append(yard.polygonArea(polygon));
-      seen.append(' ').append(yard.isSimple(polygon));
-    }
-    seen.append(" lines ").append(yard.crossings());
-    return seen.toString();
-  }
-
   void end() {
     System.out.println(asked + " answers, " + wrong + " not as due");
     if (wrong != 0) {
@@ -78,10 +60,10 @@ final class Due {
     }
   }
 
-  private void tell(String text) {
+  void tell(String text) {
     wrong++;
     if (wrong <= 40) {
-      System.out.println("  " + text);
+      System.out.println("  " + (sentence.isEmpty() ? "" : "[" + sentence + "] ") + text);
     }
   }
 }

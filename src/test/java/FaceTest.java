@@ -1,7 +1,11 @@
+import java.io.IOException;
 import java.lang.reflect.Constructor;
 import java.lang.reflect.Field;
 import java.lang.reflect.Method;
 import java.lang.reflect.Modifier;
+import java.nio.charset.StandardCharsets;
+import java.nio.file.Files;
+import java.nio.file.Path;
 import java.util.TreeSet;
 
 /** The public face: what the document has, and nothing else. */
@@ -24,12 +28,29 @@ public final class FaceTest {
   private final Due due = new Due();
   private final TreeSet<String> faceNames = new TreeSet<>();
 
-  public static void main(String[] args) {
+  public static void main(String[] args) throws IOException {
     FaceTest test = new FaceTest();
+    test.signatures();
     test.methods();
     test.others();
     test.classesInside();
     test.due.end();
+  }
+
+  /** Each line of the document's face stands in the source, word for word. */
+  private void signatures() throws IOException {
+    Path document = Path.of("..", "shared", "DOC.md");
+    Path program = Path.of("src", "main", "java", "HullyardSurveys.java");
+    String source = Files.readString(program, StandardCharsets.UTF_8).replaceAll("\\s+", " ");
+    int found = 0;
+    for (String line : Files.readAllLines(document, StandardCharsets.UTF_8)) {
+      if (line.startsWith("    public ") && line.endsWith(";")) {
+        String signature = line.strip().replace(";", " {");
+        due.same("stands in the source: " + signature, source.contains(signature), true);
+        found++;
+      }
+    }
+    due.same("lines of the face", found, FACE.length + 1);
   }
 
   private void methods() {

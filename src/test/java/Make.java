@@ -5,6 +5,21 @@ import java.util.List;
 
 /** Makes yards for the tests. */
 final class Make {
+  /** A square with a notch from above: corner 3 is at the bottom of the notch. */
+  static final int[] NOTCHED = {0, 0, 4, 0, 4, 4, 2, 1, 0, 4};
+  /** A comb with three teeth up. */
+  static final int[] COMB = {
+    0, 0, 10, 0, 10, 5, 8, 5, 8, 2, 6, 2, 6, 5, 4, 5, 4, 2, 2, 2, 2, 5, 0, 5,
+  };
+  /** Four corners of which two edges cross. */
+  static final int[] CROSSED = {0, 0, 2, 2, 0, 2, 2, 0};
+  /** As many corners as a polygon can have, going round a convex one to the left. */
+  static final int[] SIXTEEN = {
+    -4, -10, -1, -11, 1, -11, 4, -10, 8, -7, 10, -4, 11, -1, 11, 1, 10, 4, 7, 8, 4, 10, 1, 11, -1,
+    11, -4, 10, -8, 7, -11, 1,
+  };
+  static final int SIXTEEN_AREA = 685;
+
   private Make() {
   }
 
@@ -53,13 +68,12 @@ final class Make {
     return told.toString();
   }
 
-  /** The 60 shortest sides of unlike directions, in their order round a hull: x, y, x, y. */
-  static int[] roundTrip() {
+  /** 60 corners of a convex polygon, from the first one in order, to the left: x, y, x, y. */
+  static int[] sixtyCorners() {
     List<int[]> sides = new ArrayList<>();
     for (int x = -7; x <= 7; x++) {
       for (int y = -7; y <= 7; y++) {
-        int divisor = BigInteger.valueOf(x).gcd(BigInteger.valueOf(y)).intValue();
-        if (divisor == 1) {
+        if (BigInteger.valueOf(x).gcd(BigInteger.valueOf(y)).intValue() == 1) {
           sides.add(new int[] {x, y});
         }
       }
@@ -70,12 +84,23 @@ final class Make {
             .thenComparingInt(s -> Math.abs(s[0]))
             .thenComparingInt(s -> Math.abs(s[0] + s[1])));
     List<int[]> round = new ArrayList<>(sides.subList(0, 60));
-    round.sort(Comparator.comparingDouble(s -> -Math.atan2(-s[1], s[0])));
+    round.sort(Comparator.comparingDouble(Make::direction));
     int[] numbers = new int[120];
+    int x = -60;
+    int y = -30;
     for (int i = 0; i < 60; i++) {
-      numbers[2 * i] = round.get(i)[0];
-      numbers[2 * i + 1] = round.get(i)[1];
+      numbers[2 * i] = x;
+      numbers[2 * i + 1] = y;
+      x += round.get(i)[0];
+      y += round.get(i)[1];
     }
     return numbers;
+  }
+
+  /** Round a hull the sides to the right come first, the one straight down comes last. */
+  private static double direction(int[] side) {
+    double angle = Math.atan2(side[1], side[0]);
+    boolean isLate = side[1] < 0 && side[0] <= 0;
+    return isLate ? angle + 2 * Math.PI : angle;
   }
 }

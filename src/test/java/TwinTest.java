@@ -1,42 +1,36 @@
-import java.lang.reflect.InvocationTargetException;
-import java.lang.reflect.Method;
 import java.util.ArrayList;
+import java.util.Arrays;
 import java.util.Collections;
 import java.util.List;
+import java.util.Set;
 
 /**
  * Long runs of calls on the class and on its slow twin. The calls are drawn by a formula, so every
  * run of this test makes the same ones. A first argument sets another number of runs.
  */
 public final class TwinTest {
-  /**
-   * The calls and what their numbers are: H heap, X coordinate, A any place, P point, W what, K
-   * place in a row, G polygon, C corner, L line, N number of points, B yes or no.
-   */
-  private static final String[] CALLS = {
-    "point HXX", "point HXX", "point HXX", "point HXX", "drop P", "pointOf PW", "count H",
-    "sorted HK", "places H", "turn PPP", "hull H", "join HH", "sum HH", "layers H", "layer HK",
-    "hullOf G", "corners ", "corner KB", "area ", "edge ", "inner ", "lies AA", "lies AA",
-    "width B", "add GXX", "clear G", "isSimple G", "polygonArea G", "polygonEdge G",
-    "polygonInner G", "polygonLies GAA", "polygonLies GAA", "holds GH", "triangles G",
-    "triangleAt GK", "triangleAt GK", "sees GCC", "sees GCC", "view GC", "line XXXX", "line XXXX",
-    "clearLines ", "cross LL", "crossings ", "crossingAt K", "pair HB", "distance HB", "box HW",
-    "fence HN", "fence HN", "apart HH", "apart HH", "image ", "restore ", "checksum ", "meanFar H",
-    "fills ", "errors ",
+  /** Calls that are drawn more often than the others. */
+  private static final String[] OFTEN = {
+    "point HXX", "point HXX", "point HXX", "lies AA", "polygonLies GAA", "triangleAt GK",
+    "sees GCC", "line XXXX", "fence HN", "apart HH",
   };
 
-  private static final int CALLS_OF_A_RUN = 300;
+  /** A polygon that grows takes fewer calls than these. */
+  private static final int CALLS_TO_GROW = 100;
+  private static final Set<String> MAKES_FIGURES =
+      Set.of("hull", "join", "sum", "layer", "hullOf");
   private static final int[] SPANS = {1, 2, 3, 4, 5, 7, 12, 30, 200};
 
   private final Due due = new Due();
   private long drawn = 20261119L;
   private int span = 4;
-  private HullyardSurveys yard;
   private Twin twin;
+  private Calls yardCalls;
+  private Calls twinCalls;
 
-  public static void main(String[] args) throws Exception {
+  public static void main(String[] args) {
     TwinTest test = new TwinTest();
-    int runs = args.length > 0 ? Integer.parseInt(args[0]) : 300;
+    int runs = args.length > 0 ? Integer.parseInt(args[0]) : 500;
     if (args.length > 1) {
       test.drawn = Long.parseLong(args[1]);
     }
@@ -51,34 +45,37 @@ public final class TwinTest {
     return (int) Math.floorMod(drawn >>> 33, (long) below);
   }
 
-  private void run(int run) throws Exception {
-    yard = new HullyardSurveys();
+  private void run(int run) {
     twin = new Twin();
+    twinCalls = new Calls(twin);
+    yardCalls = new Calls(new HullyardSurveys());
     span = SPANS[run % SPANS.length];
     // The slow twin does not get through many points with unlike numbers.
     int mostPoints = span > 12 ? 12 + draw(10) : 60;
     fill(run, draw(mostPoints + 1));
-    for (int i = 0; i < CALLS_OF_A_RUN; i++) {
+    while (yardCalls.left() > CALLS_TO_GROW) {
       if (draw(25) == 0) {
         grow(run);
         continue;
       }
-      String call = CALLS[draw(CALLS.length)];
-      String name = call.substring(0, call.indexOf(' '));
+      int drawnCall = draw(Calls.FACE.length + OFTEN.length);
+      String call =
+          drawnCall < OFTEN.length ? OFTEN[drawnCall] : Calls.FACE[drawnCall - OFTEN.length];
+      String name = Calls.nameOf(call);
       boolean isSeldom =
           name.equals("clearLines")
               || name.equals("image")
               || name.equals("restore")
               || (name.equals("point") && twin.pointsCome() >= mostPoints);
-      if (isSeldom && draw(5) != 0) {
-        continue;
+      if (!isSeldom || draw(5) == 0) {
+        ask(run, name, numbers(Calls.kindsOf(call)));
       }
-      ask(run, name, numbers(call.substring(call.indexOf(' ') + 1)));
     }
+    ask(run, "checksum", new Object[] {});
   }
 
   /** Puts points into all heaps, or into one, and asks for its layers. */
-  private void fill(int run, int wanted) throws Exception {
+  private void fill(int run, int wanted) {
     boolean isOneHeap = draw(2) == 0;
     for (int i = 0; i < wanted; i++) {
       int heap = isOneHeap ? run % 3 : draw(3);
@@ -95,7 +92,7 @@ public final class TwinTest {
   }
 
   /** Makes one polygon a simple one, going round to the left or to the right. */
-  private void grow(int run) throws Exception {
+  private void grow(int run) {
     int polygon = draw(4);
     List<int[]> shape = new ArrayList<>();
     int wanted = 3 + draw(14);
@@ -166,30 +163,13 @@ public final class TwinTest {
     return draw(2 * span + 1) - span;
   }
 
-  private void ask(int run, String name, Object[] numbers) throws Exception {
-    String told = "run " + run + ": " + name + java.util.Arrays.toString(numbers);
-    due.sameText(told, answer(yard, name, numbers), answer(twin, name, numbers));
-    due.sameText("the figure after " + told, figure(yard), figure(twin));
-  }
-
-  private static String figure(HullyardSurveys yard) {
-    return yard.corners() + " " + yard.checksum();
-  }
-
-  private static String figure(Twin twin) {
-    return twin.corners() + " " + twin.checksum();
-  }
-
-  private static String answer(Object asked, String name, Object[] numbers) throws Exception {
-    Class<?>[] types = new Class<?>[numbers.length];
-    for (int i = 0; i < types.length; i++) {
-      types[i] = numbers[i] instanceof Boolean ? boolean.class : int.class;
-    }
-    Method method = asked.getClass().getMethod(name, types);
-    try {
-      return String.valueOf(method.invoke(asked, numbers));
-    } catch (InvocationTargetException thrown) {
-      return thrown.getCause().getClass().getName();
+  private void ask(int run, String name, Object[] numbers) {
+    String told = "run " + run + ": " + name + Arrays.toString(numbers);
+    String want = twinCalls.answer(name, numbers);
+    due.sameText(told, yardCalls.answer(name, numbers), want);
+    if (MAKES_FIGURES.contains(name) && yardCalls.left() > 0) {
+      String figure = twinCalls.answer("checksum");
+      due.sameText("the figure after " + told, yardCalls.answer("checksum"), figure);
     }
   }
 }
