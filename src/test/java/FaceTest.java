@@ -39,11 +39,13 @@ public final class FaceTest {
 
   /** Each line of the document's face stands in the source, word for word. */
   private void signatures() throws IOException {
-    Path document = Path.of("..", "shared", "DOC.md");
+    if (!Files.exists(Told.DOCUMENT)) {
+      return;
+    }
     Path program = Path.of("src", "main", "java", "HullyardSurveys.java");
     String source = Files.readString(program, StandardCharsets.UTF_8).replaceAll("\\s+", " ");
     int found = 0;
-    for (String line : Files.readAllLines(document, StandardCharsets.UTF_8)) {
+    for (String line : Files.readAllLines(Told.DOCUMENT, StandardCharsets.UTF_8)) {
       if (line.startsWith("    public ") && line.endsWith(";")) {
         String signature = line.strip().replace(";", " {");
         due.same("stands in the source: " + signature, source.contains(signature), true);

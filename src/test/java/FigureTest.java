@@ -151,6 +151,11 @@ public final class FigureTest {
     yard = Make.heap(0, 0, 0, 4);
     Make.points(yard, 1, 0, 0, 0, 3, 2, 0);
     figure(yard, "sum of what stands", yard.sum(0, 1), 4, "0,0 2,0 2,4 0,7");
+    yard = Make.heap(0, 0, 0, 1);
+    Make.points(yard, 1, 0, 0, 0, 2);
+    Make.points(yard, 2, 0, 0, 1, 0, 0, 5);
+    figure(yard, "sum of stretches that stand", yard.sum(0, 1), 2, "0,0 0,3");
+    figure(yard, "sum of what is steep and what stands", yard.sum(2, 0), 4, "0,0 1,0 1,1 0,6");
     yard = Make.heap(0, 0, 2, 1);
     Make.points(yard, 1, 0, 0, 4, 2);
     figure(yard, "sum of stretches on a line", yard.sum(0, 1), 2, "0,0 6,3");
@@ -355,6 +360,10 @@ public final class FigureTest {
     }
     due.raises("layer 0 of an empty heap", NONE, () -> yard.layer(1, 0));
     due.raises("layer 20 of 20", NONE, () -> deep.layer(0, 20));
+    due.raises("layer 1 of one point", NONE, () -> Make.heap(5, 5).layer(0, 1));
+    HullyardSurveys around = Make.heap(0, 0, 9, 0, 0, 9, 1, 1);
+    due.raises("a layer behind one point", NONE, () -> around.layer(0, 2));
+    due.raises("a layer far behind one point", NONE, () -> around.layer(0, 9));
     due.sameText("the figure after it", Make.figure(yard), "0,0 6,0 6,6 0,6");
     told.end();
   }
@@ -446,6 +455,11 @@ public final class FigureTest {
     due.same("area of a stretch", hullOfHeap(9, 9, -9, 3).area(), 0);
     due.same("area of a triangle", hullOfHeap(0, 0, 6, 0, 0, 4).area(), 24);
     due.same("the least area", hullOfHeap(-200, 200, -199, 200, -200, 199).area(), 1);
+    HullyardSurveys lesser = Make.heap(0, 0, 4, 1, 9, 7, 3, 8);
+    Make.points(lesser, 1, 1, 1, 2, 1, 1, 2);
+    lesser.hull(0);
+    lesser.hull(1);
+    due.same("area behind a figure with more corners", lesser.area(), 1);
     HullyardSurveys yard = Make.heap(GREATEST);
     yard.sum(0, 0);
     due.same("the greatest area", yard.area(), 1280000);

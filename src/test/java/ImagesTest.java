@@ -222,6 +222,11 @@ public final class ImagesTest {
     Make.corners(great, 2, 0, 0, 2, 0, 4, 0, 4, 4, 2, 4, 0, 4, 0, 2);
     Make.corners(great, 3, -200, -200, 200, 199, 199, 199);
     due.same("errors of great polygons", great.errors(), 0);
+    int[] down = Make.COMB.clone();
+    for (int i = 1; i < down.length; i += 2) {
+      down[i] = -down[i];
+    }
+    due.same("errors of a comb with teeth down", Make.polygon(down).errors(), 0);
 
     told.says("simple polygons whose triangles have not together its area.");
     due.same("errors of 16 corners", Make.polygon(Make.SIXTEEN).errors(), 0);

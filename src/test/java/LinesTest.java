@@ -78,6 +78,7 @@ public final class LinesTest {
     crossing("a cross", true, 0, 0, 2, 2, 0, 2, 2, 0);
     crossing("a cross between the places", true, 0, 0, 1, 1, 0, 1, 1, 0);
     crossing("a T", true, 0, 0, 4, 0, 2, 0, 2, 5);
+    crossing("a T from above", true, 0, 0, 4, 0, 2, 5, 2, 0);
     crossing("all but a T", false, 0, 0, 4, 0, 2, 1, 2, 5);
     crossing("an end at an end", true, 0, 0, 4, 0, 4, 0, 9, 9);
     crossing("an end at an end, on a line", true, 0, 0, 4, 0, 4, 0, 9, 0);

@@ -84,6 +84,10 @@ public final class PairsTest {
             + " between which it lies.");
     wide(9, 1, 0, 0, 4, 0, 4, 3, 0, 3);
     wide(4, 1, 0, 0, 9, 0, 7, 2, 1, 2);
+    // From the side at the first corner, from the side at the last one, far from 0.
+    wide(4, 1, 0, 0, 10, 0, 5, 2);
+    wide(4, 1, 0, 0, 5, -2, 10, 0);
+    wide(4, 1, -20, -21, -10, -21, -15, -19);
     wide(144, 25, 0, 0, 4, 0, 0, 3);
 
     told.says("It is told squared, as a fraction in lowest terms.");
@@ -106,7 +110,7 @@ public final class PairsTest {
             + " along x and y, that holds at least k of its points.");
     fences(Make.heap(SIX), 0, 1, 3, 5, 7, 7);
     fences(Make.heap(0, 0, 2, 0, 2, 2, 0, 2, 1, 1), 0, 2, 3, 4, 4);
-    // A box of 2 that holds 3, so 2 need no more than it.
+    // The least box for 1 holds 3.
     fences(Make.heap(0, 0, 0, 0, 0, 0, 9, 9), 0, 0, 0, 18);
     // Fewer points at the sides than in the middle: the box is not the one of neighbours by x.
     fences(Make.heap(0, 0, 1, 100, 2, 0, 3, 100, 4, 0), 0, 2, 4, 103, 104);
@@ -175,6 +179,10 @@ public final class PairsTest {
     due.same("the farthest of 60", full.distance(0, true), 177 * 177);
     full.drop(0);
     due.same("after a drop", full.distance(0, true), 174 * 174);
+    for (int i = 1; i < 58; i++) {
+      full.drop(i);
+    }
+    due.same("of the last two of 60", full.distance(0, false), 9);
     due.same("of two at one place", Make.heap(1, 1, 1, 1).distance(0, false), 0);
 
     told.says("- `heap`: 0 to 2");

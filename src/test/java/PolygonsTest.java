@@ -224,6 +224,11 @@ public final class PolygonsTest {
     seen(twice, 2, 3, true);
     seen(twice, 0, 3, false);
     seen(twice, 1, 4, true);
+    // Out across edge 0 and in at corner 2, both behind the middle.
+    int[] late = {6, 1, 7, -1, 8, 0, 9, 4, 12, 0, 12, -5, 0, -5, 0, 0, 2, 4};
+    seen(late, 7, 4, false);
+    seen(late, 7, 2, false);
+    seen(late, 2, 4, true);
     told.end();
   }
 
@@ -298,6 +303,11 @@ public final class PolygonsTest {
     due.same("isSimple of another one", yard.isSimple(1), true);
     Make.corners(yard, 0, 1, 1, 2, 1, 1, 2);
     due.same("polygonArea of the next corners", yard.polygonArea(0), 1);
+    HullyardSurveys more = sixteen();
+    more.clear(0);
+    Make.corners(more, 0, 1, 1, 2, 1, 1, 2);
+    due.same("polygonArea of fewer corners", more.polygonArea(0), 1);
+    due.same("isSimple of fewer corners", more.isSimple(0), true);
 
     told.says("- `polygon`: 0 to 3");
     due.same("clear of 0", yard.clear(0), 3);
