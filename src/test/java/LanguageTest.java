@@ -1,8 +1,12 @@
+import com.sun.source.tree.ArrayAccessTree;
 import com.sun.source.tree.AssertTree;
 import com.sun.source.tree.BinaryTree;
 import com.sun.source.tree.ClassTree;
 import com.sun.source.tree.CompilationUnitTree;
+import com.sun.source.tree.CompoundAssignmentTree;
+import com.sun.source.tree.DoWhileLoopTree;
 import com.sun.source.tree.ExpressionTree;
+import com.sun.source.tree.ForLoopTree;
 import com.sun.source.tree.IdentifierTree;
 import com.sun.source.tree.ImportTree;
 import com.sun.source.tree.LambdaExpressionTree;
@@ -19,6 +23,7 @@ import com.sun.source.tree.Tree;
 import com.sun.source.tree.TryTree;
 import com.sun.source.tree.TypeCastTree;
 import com.sun.source.tree.VariableTree;
+import com.sun.source.tree.WhileLoopTree;
 import com.sun.source.util.JavacTask;
 import com.sun.source.util.SourcePositions;
 import com.sun.source.util.TreeScanner;
@@ -27,6 +32,7 @@ import java.nio.charset.StandardCharsets;
 import java.nio.file.Files;
 import java.nio.file.Path;
 import java.util.Set;
+import java.util.regex.Pattern;
 import javax.lang.model.element.Modifier;
 import javax.tools.JavaCompiler;
 import javax.tools.StandardJavaFileManager;
@@ -66,17 +72,32 @@ public final class LanguageTest {
     due.same("strange signs in the source", strange, 0);
   }
 
+  /** Reads the source as it is written first; whom a call calls is known only behind that. */
   private void source() throws Exception {
     JavaCompiler compiler = ToolProvider.getSystemJavaCompiler();
     try (StandardJavaFileManager files = compiler.getStandardFileManager(null, null, null)) {
       JavacTask task =
           (JavacTask)
               compiler.getTask(null, files, null, null, null, files.getJavaFileObjects(SOURCE));
-      SourcePositions positions = Trees.instance(task).getSourcePositions();
-      for (CompilationUnitTree unit : task.parse()) {
+      Trees trees = Trees.instance(task);
+      SourcePositions positions = trees.getSourcePositions();
+      Iterable<? extends CompilationUnitTree> units = task.parse();
+      for (CompilationUnitTree unit : units) {
         new Reader(unit, positions).scan(unit, null);
       }
+      task.analyze();
+      for (CompilationUnitTree unit : units) {
+        callsOf(unit, trees);
+      }
     }
+  }
+
+  private void callsOf(CompilationUnitTree unit, Trees trees) {
+    CallGraph graph = new CallGraph(trees);
+    graph.scan(unit, null);
+    int depth = graph.depth();
+    due.same("rule 11, " + depth + " calls deep", depth >= 2 && depth <= 8, true);
+    due.sameText("rule 8, calls that lead back to themselves", graph.comesBack(), "");
   }
 
   /** Reads the source and tells what the rules do not allow. */
@@ -191,6 +212,9 @@ public final class LanguageTest {
         if (select.getExpression().toString().equals("Math")) {
           allow(tree, "rule 4, Math", MATH.contains(select.getIdentifier().toString()));
         }
+        if (select.getIdentifier().contentEquals("floorDiv")) {
+          divides(tree, tree.getArguments().get(1));
+        }
       }
       return super.visitMethodInvocation(tree, none);
     }
@@ -213,7 +237,66 @@ public final class LanguageTest {
           tree.getLeftOperand().getKind() == Tree.Kind.STRING_LITERAL
               || tree.getRightOperand().getKind() == Tree.Kind.STRING_LITERAL;
       allow(tree, "rule 10, texts joined", !isText);
+      if (tree.getKind() == Tree.Kind.DIVIDE || tree.getKind() == Tree.Kind.REMAINDER) {
+        divides(tree, tree.getRightOperand());
+      }
       return super.visitBinary(tree, none);
+    }
+
+    @Override
+    public Void visitCompoundAssignment(CompoundAssignmentTree tree, Void none) {
+      boolean isSum =
+          tree.getKind() == Tree.Kind.PLUS_ASSIGNMENT || tree.getKind() == Tree.Kind.MINUS_ASSIGNMENT;
+      allow(tree, "rule 7, a divisor that is not looked at", isSum);
+      return super.visitCompoundAssignment(tree, none);
+    }
+
+    /** The divisor must be a written number, or held against 0 in the same method. */
+    private void divides(Tree tree, ExpressionTree divisor) {
+      ExpressionTree plain = divisor;
+      while (plain instanceof TypeCastTree) {
+        plain = ((TypeCastTree) plain).getExpression();
+      }
+      boolean isLookedAt = plain instanceof LiteralTree && !plain.toString().equals("0");
+      for (String against : new String[] {" != 0", " == 0", " > 0", " <= 0"}) {
+        isLookedAt = isLookedAt || (method != null && stands(plain + against));
+      }
+      allow(tree, "rule 7, a divisor that is not looked at", isLookedAt);
+    }
+
+    private boolean stands(String text) {
+      return Pattern.compile("(?<![\\w.])" + Pattern.quote(text) + "\\b").matcher(method.toString()).find();
+    }
+
+    @Override
+    public Void visitArrayAccess(ArrayAccessTree tree, Void none) {
+      String bound = tree.getIndex() + " < " + tree.getExpression() + ".length";
+      allow(tree, "rule 7, an index that is not looked at", method != null && stands(bound));
+      return super.visitArrayAccess(tree, none);
+    }
+
+    @Override
+    public Void visitForLoop(ForLoopTree tree, Void none) {
+      ends(tree, tree.getCondition());
+      return super.visitForLoop(tree, none);
+    }
+
+    @Override
+    public Void visitWhileLoop(WhileLoopTree tree, Void none) {
+      ends(tree, tree.getCondition());
+      return super.visitWhileLoop(tree, none);
+    }
+
+    @Override
+    public Void visitDoWhileLoop(DoWhileLoopTree tree, Void none) {
+      ends(tree, tree.getCondition());
+      return super.visitDoWhileLoop(tree, none);
+    }
+
+    /** A counter against a bound must stand in the head of a loop. */
+    private void ends(Tree loop, ExpressionTree condition) {
+      boolean hasBound = condition != null && condition.toString().matches(".* [<>]=? .*");
+      allow(loop, "rule 9, a loop without a bound", hasBound);
     }
 
     @Override
