@@ -65,12 +65,12 @@ final class CallGraph extends TreePathScanner<Void, Void> {
 
   @Override
   public Void visitClass(ClassTree tree, Void none) {
-    return visitWithin(nodeOf(trees.getElement(getCurrentPath())), () -> super.visitClass(tree, none));
+    return visitWithin(nodeHere(), () -> super.visitClass(tree, none));
   }
 
   @Override
   public Void visitMethod(MethodTree tree, Void none) {
-    return visitWithin(nodeOf(trees.getElement(getCurrentPath())), () -> super.visitMethod(tree, none));
+    return visitWithin(nodeHere(), () -> super.visitMethod(tree, none));
   }
 
   @Override
@@ -94,14 +94,15 @@ final class CallGraph extends TreePathScanner<Void, Void> {
   }
 
   private void keepCall() {
-    Element called = nodeOf(trees.getElement(getCurrentPath()));
+    Element called = nodeHere();
     // A constructor begins with a call of the one above it, which is none of the source.
     if (called != around.peek() || called.getKind() == ElementKind.METHOD) {
       calls.get(around.peek()).add(called);
     }
   }
 
-  private static Element nodeOf(Element element) {
+  private Element nodeHere() {
+    Element element = trees.getElement(getCurrentPath());
     return element.getKind() == ElementKind.CONSTRUCTOR ? element.getEnclosingElement() : element;
   }
 }

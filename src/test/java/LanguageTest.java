@@ -118,7 +118,8 @@ public final class LanguageTest {
     }
 
     private void allow(Tree tree, String rule, boolean isAllowed) {
-      due.same("line " + lineOf(positions.getStartPosition(unit, tree)) + ": " + rule, isAllowed, true);
+      long line = lineOf(positions.getStartPosition(unit, tree));
+      due.same("line " + line + ": " + rule, isAllowed, true);
     }
 
     private boolean isInCall() {
@@ -246,7 +247,8 @@ public final class LanguageTest {
     @Override
     public Void visitCompoundAssignment(CompoundAssignmentTree tree, Void none) {
       boolean isSum =
-          tree.getKind() == Tree.Kind.PLUS_ASSIGNMENT || tree.getKind() == Tree.Kind.MINUS_ASSIGNMENT;
+          tree.getKind() == Tree.Kind.PLUS_ASSIGNMENT
+              || tree.getKind() == Tree.Kind.MINUS_ASSIGNMENT;
       allow(tree, "rule 7, a divisor that is not looked at", isSum);
       return super.visitCompoundAssignment(tree, none);
     }
@@ -265,7 +267,8 @@ public final class LanguageTest {
     }
 
     private boolean stands(String text) {
-      return Pattern.compile("(?<![\\w.])" + Pattern.quote(text) + "\\b").matcher(method.toString()).find();
+      Pattern whole = Pattern.compile("(?<![\\w.])" + Pattern.quote(text) + "\\b");
+      return whole.matcher(method.toString()).find();
     }
 
     @Override

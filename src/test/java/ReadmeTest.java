@@ -31,8 +31,9 @@ public final class ReadmeTest {
   private void example() {
     int begin = text.indexOf("```java\n");
     int end = text.indexOf("```", begin + 3);
-    due.same("the example is there", begin >= 0 && end > begin, true);
-    String[] lines = begin < 0 || end < begin ? new String[0] : text.substring(begin, end).split("\n");
+    boolean isThere = begin >= 0 && end > begin;
+    due.same("the example is there", isThere, true);
+    String[] lines = isThere ? text.substring(begin, end).split("\n") : new String[0];
     Calls yard = new Calls(new HullyardSurveys());
     for (int i = 1; i < lines.length; i++) {
       Matcher call = CALL.matcher(lines[i]);
